@@ -553,12 +553,12 @@ public final class BellOfLies {
         if (!isWithin(i, 0, 2 * MOST_PEOPLE - 1)) {
             return OUTSIDE;
         }
-        boolean liesHours = i >= MOST_PEOPLE;
-        int p = liesHours ? i - MOST_PEOPLE : i;
+        boolean ofHours = i >= MOST_PEOPLE;
+        int p = ofHours ? i - MOST_PEOPLE : i;
         if (!now.has(p)) {
             return MISSING;
         }
-        if (liesHours) {
+        if (ofHours) {
             return kind == OWN_HOURS ? now.own[p] : UNLIKE;
         }
         return isKindOf(now.kind[p], kind) ? p : UNLIKE;
@@ -767,7 +767,11 @@ public final class BellOfLies {
             }
         }
 
+        /** What a name in a text stands for. */
         int named(int step, int p) {
+            if (!has(p)) {
+                return 0;
+            }
             switch (step) {
                 case STEP_NERVE: return nerve[p];
                 case STEP_TOLD: return Math.min(told[p], MOST_SAID);
@@ -779,11 +783,11 @@ public final class BellOfLies {
         }
 
         boolean isOwnHour(int p) {
-            return (own[p] >> hour % DAY_HOURS & 1) == 1;
+            return has(p) && (own[p] >> (hour % DAY_HOURS) & 1) == 1;
         }
 
         boolean isLoversHour(int p) {
-            return isOwnHour(p) || hour % DAY_HOURS % 12 == more[p];
+            return isOwnHour(p) || has(p) && hour % DAY_HOURS % 12 == more[p];
         }
 
         boolean isLying(int p) {
@@ -955,7 +959,7 @@ public final class BellOfLies {
             return sort == NO_SORT;
         }
 
-        /** Whether n places from i on are inside; none of the three sums may wrap. */
+        /** Whether n places from i on are inside; told without a sum that could wrap. */
         boolean has(int i, int n) {
             return i >= 0 && n >= 0 && i <= size && n <= size - i;
         }
