@@ -197,7 +197,7 @@ public final class PromisesTest {
             "lies 1; ^lies 1;", "lies 1;costs 1;^", "lies 1;costs 1; ^costs 1;", "lies 1;costs 1;strokes 1^",
             "lies 1;costs 1;strokes 1;^;", "lies 1;costs 1;strokes 1; ^lies", "lies 1;costs 1;strokes 1;\n^9",
             "lies 1;costs 1;strokes 1; ^12345", "lies 1;costs 1;strokes 1; ^!", "lies ^Nerve", "lies 1 ^, 2",
-            "lies ^nervex;", "lies ^nerv;", "lies nerve^_;", "lies 1^\t;", "lies ^12345;", "lies ^00001;",
+            "lies ^nervex;", "lies ^nervez;", "lies ^anerve;", "lies ^nerv;", "^dies 1;", "lies ^mold;", "lies 1 ^ar 1;", "lies ^nervf;", "lies nerve^_;", "lies 1^\t;", "lies ^12345;", "lies ^00001;",
             "lies 1 ^2;", "lies 1^nerve;", "lies 1 ^12345", "lies 1234 ^5", "lies nerve ^told", "lies nerve ^(1)",
             "lies nerve ^not 1", "lies 1 ^not 1", "lies (((((^(1))))));", "lies not not not not not ^not 1;",
             "lies -----^-1;", "lies (((((^-1)))));", "lies (((((^not 1", "lies not(-(-^(1", "lies -(-(-^-1",
@@ -225,12 +225,12 @@ public final class PromisesTest {
     }
 
     private static void textValues() {
-        String[] sums = { "1+2*3", "(1+2)*3", "10-3-2", "2-3", "-3+5", "--3", "-2*3", "2*-3", "1 or 0", "5 and 7", "0 or 0",
+        String[] sums = { "1+2*3", "(1+2)*3", "10-3-2", "2-3", "-3+5", "--3", "-2*3", "2*-3", "1 or 0", "5 and 7", "1 and 1", "1 and 0", "0 and 1", "0 or 1", "0 or 0",
             "5 and 0", "not 5", "not 0", "not not 5", "1<2", "2<1", "2<2", "2=2", "1=2", "not 1=2", "not 2=2", "1 or 1 and 0",
             "0 and 0 or 1", "1+1<3", "1<1+1", "not 0+5", "-1<0", "98+0", "99+0", "100+0", "-98", "-99", "-100", "9999",
             "-9999", "9999*9999*22", "9999*9999*21", "9999*9999*43-9999*417-3100", "0010", "7 or nerve", "-1 and -1",
             "nerve", "told", "hour", "last", "people", "more", "more*10+people", "2*3+4*5", "(1<2)+(1=1)+1", "8-2*3", "8-(2-3)" };
-        int[] want = { 7, 9, 5, -1, 2, 3, -6, -6, 1, 1, 0,
+        int[] want = { 7, 9, 5, -1, 2, 3, -6, -6, 1, 1, 1, 0, 0, 1, 0,
             0, 0, 1, 1, 1, 0, 0, 1, 0, 1, 0, 1,
             1, 1, 1, 0, 1, 98, 99, 99, -98, -99, -99, 99,
             -99, -99, 99, 64, 10, 1, 1,
@@ -399,7 +399,7 @@ public final class PromisesTest {
     private static void kindsOfStrokes() {
         int[][] want = { { 11, 11, 14, 22, 0, 0 }, { 11, 11, 14, 22, 14, 0 }, { 11, 11, 14, 22, 14, 0 } };
         for (int k = 0; k < 6; k++) {
-            for (int hour = 24; hour < 27; hour++) {
+            for (int hour = 24; hour < 75; hour++) {
                 BellOfLies x = ruledTown("lies 0;costs 0;strokes 11;", 10 * k + 3, 50, 0);
                 x.clock(hour);
                 due(10, "strokes of KIND " + k, x.tells(0, 8), want[hour % 3][k]);
@@ -572,6 +572,10 @@ public final class PromisesTest {
         x = ruledTown("lies 1;costs 0;strokes more;", 2, 0, ALL, 2, 0, ALL, 4, 0, ALL);
         due(17, "fewest: one of 4 ahead of two of 2", x.council(5, 4, 0), 4);
         due(17, "one", x.council(5, 4, 1), 1);
+        x = ruledTown(FREE, 0, 0, ALL, 0, 0, ALL, 0, 0, ALL, 0, 0, ALL, 0, 0, ALL, 0, 0, ALL);
+        due(17, "all six", x.council(0, 0, 0), 63);
+        due(17, "six", x.council(0, 0, 1), 6);
+        due(17, "five", x.council(24, 1, 0), 31);
     }
 
     private static void lessons() {
@@ -631,6 +635,9 @@ public final class PromisesTest {
     private static void shares() {
         BellOfLies x = town(0, 2, ALL, 0, 2, ALL, 0, 2, ALL);
         due(21, "none was told", x.share(0, 0), BellOfLies.NO);
+        x.put(0, 1, 1);
+        due(21, "1 of 1", x.share(0, 0), 1);
+        due(21, "0 of 1", x.share(1, 0), 0);
         x.put(0, 1, 4);
         x.put(1, 1, 6);
         due(21, "4 of 10", x.share(0, 0), 2);
