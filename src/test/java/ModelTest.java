@@ -11,7 +11,7 @@ public final class ModelTest {
     public static void main(String[] args) {
         int runs = args.length > 0 ? Integer.parseInt(args[0]) : RUNS;
         long first = args.length > 1 ? Long.parseLong(args[1]) : 1;
-        int wrong = 0;
+        int wrong = everyEdge();
         for (int r = 0; r < runs && wrong < 5; r++) {
             wrong += oneRun(first + r) ? 0 : 1;
         }
@@ -43,6 +43,60 @@ public final class ModelTest {
             }
         }
         return true;
+    }
+
+    /** Each call with each mix of numbers at the document's bounds and next to them, on towns empty, small and full. */
+    private static int everyEdge() {
+        Call[] small = { new Call("person", 14, 40, 61455), new Call("person", 23, 50, 16777215), Call.reading("lies nerve<90;costs 2-last;strokes 1+more;"),
+            new Call("force", 1), new Call("put", 1, 1, 7), new Call("strike"), new Call("image"), new Call("clock", 9995),
+            new Call("film", 0, 24), new Call("sheet", 1, 0, 24), new Call("sheet", 2, 1, 25) };
+        Call[] full = { new Call("person", 0, 30, 16777215), new Call("person", 11, 30, 4095), new Call("person", 22, 30, 16777215),
+            new Call("person", 30, 30, 16777215), new Call("person", 44, 30, 85), new Call("person", 55, 30, 0), Call.reading("lies 1;costs 1;strokes 99;"),
+            Call.reading("lies told;costs -1;strokes hour;"), Call.reading("lies nerve;costs 1;strokes 1;"), Call.reading("lies 0;costs 0;strokes 9;"),
+            Call.reading("lies 1;costs 0;strokes people;"), new Call("force", 1), new Call("strike"), new Call("image"), new Call("put", 5, 3, 1),
+            new Call("film", 0, 24), new Call("sheet", 1, 2, 40), new Call("film", 3, 1), new Call("clock", 9999) };
+        Call[][] towns = { {}, small, full };
+        int calls = 0;
+        int wrong = 0;
+        for (Call[] town : towns) {
+            for (String[] names : new String[][] { Calls.ASKING, Calls.CHANGING }) {
+                for (String name : names) {
+                    int made = edgesOf(town, name);
+                    calls += Math.abs(made);
+                    wrong += made < 0 ? 1 : 0;
+                }
+            }
+        }
+        System.out.println(calls + " calls at the bounds, " + (wrong == 0 ? "all answers are as due" : "not as due"));
+        return wrong;
+    }
+
+    /** How many calls were made; below 0, if one answered otherwise. An object has 300 of them, then it is made anew. */
+    private static int edgesOf(Call[] town, String name) {
+        int[][] edges = Calls.edges(name);
+        int[] wheels = new int[edges.length];
+        BellOfLies x = null;
+        Model m = null;
+        int made = 0;
+        do {
+            if (made % CALLS == 0) {
+                x = new BellOfLies();
+                m = new Model();
+                for (Call call : town) {
+                    call.on(x);
+                    call.on(m);
+                }
+            }
+            Call call = new Call(name, Calls.numbers(wheels, edges));
+            made++;
+            long want = call.on(m);
+            long got = call.on(x);
+            if (got != want) {
+                System.out.println("at the bounds, a town of " + m.people.size() + ": " + call + " answered " + got + ", due is " + want);
+                return -made;
+            }
+        } while (Calls.turn(wheels, edges));
+        return made;
     }
 
     /** A row of numbers of its own, the same in each run of the test. */
@@ -86,6 +140,12 @@ public final class ModelTest {
         private Call(String name, int... a) {
             this.name = name;
             this.a = a;
+        }
+
+        static Call reading(String text) {
+            Call call = new Call("READ");
+            call.text = text;
+            return call;
         }
 
         static Call drawn(Dice d, Model m) {
@@ -144,7 +204,6 @@ public final class ModelTest {
         }
 
         private static Call read(Dice d) {
-            Call call = new Call("READ");
             StringBuilder b = new StringBuilder();
             b.append("lies ").append(d.below(3) == 0 ? "1" : sum(d, 4)).append(';');
             b.append("costs ").append(sum(d, 3)).append(';');
@@ -158,8 +217,7 @@ public final class ModelTest {
                     b.deleteCharAt(at);
                 }
             }
-            call.text = b.toString();
-            return call;
+            return reading(b.toString());
         }
 
         private static String sum(Dice d, int depth) {
@@ -195,49 +253,13 @@ public final class ModelTest {
         }
 
         long on(BellOfLies x) {
-            switch (name) {
-                case "count": return x.count(a[0]);
-                case "clock": return x.clock(a[0]);
-                case "feed": return x.feed(a[0], a[1], a[2], a[3], a[4], a[5]);
-                case "text": return x.text();
-                case "force": return x.force(a[0]);
-                case "asks": return x.asks(a[0], a[1]);
-                case "person": return x.person(a[0], a[1], a[2]);
-                case "put": return x.put(a[0], a[1], a[2]);
-                case "tells": return x.tells(a[0], a[1]);
-                case "bell": return x.bell(a[0]);
-                case "strike": return x.strike();
-                case "run": return x.run(a[0], a[1]);
-                case "when": return x.when(a[0]);
-                case "dial": return x.dial(a[0]);
-                case "hush": return x.hush(a[0]);
-                case "council": return x.council(a[0], a[1], a[2]);
-                case "lesson": return x.lesson(a[0], a[1]);
-                case "pair": return x.pair(a[0]);
-                case "mean": return x.mean(a[0], a[1]);
-                case "share": return x.share(a[0], a[1]);
-                case "judge": return x.judge(a[0]);
-                case "kinds": return x.kinds(a[0], a[1], a[2]);
-                case "nerves": return x.nerves(a[0], a[1], a[2]);
-                case "turned": return x.turned(a[0]);
-                case "hours": return x.hours(a[0]);
-                case "laws": return x.laws(a[0]);
-                case "film": return x.film(a[0], a[1]);
-                case "drawn": return x.drawn(a[0], a[1], a[2]);
-                case "odds": return x.odds(a[0], a[1], a[2], a[3]);
-                case "image": return x.image();
-                case "back": return x.back();
-                case "sheet": return x.sheet(a[0], a[1], a[2]);
-                case "cell": return x.cell(a[0], a[1], a[2]);
-                case "copy": return x.copy(a[0], a[1], a[2], a[3], a[4]);
-                case "townBy": return x.townBy(a[0], a[1], a[2], a[3]);
-                case "taken": return x.taken(a[0], a[1]);
-                default:
-                    for (int i = 0; i < text.length(); i++) {
-                        x.feed(1, text.charAt(i), 0, 0, 0, 0);
-                    }
-                    return x.text();
+            if (name.equals("READ")) {
+                for (int i = 0; i < text.length(); i++) {
+                    x.feed(1, text.charAt(i), 0, 0, 0, 0);
+                }
+                return x.text();
             }
+            return Calls.on(x, name, a);
         }
 
         @Override public String toString() {

@@ -1,9 +1,5 @@
 /** Each promise of the document by answers that were worked out by hand. */
-public final class PromisesTest {
-    private static final int ALL = 16777215;
-    private static final String FREE = "lies 1;costs 0;strokes 1;";
-    private static int wrong = 0, calls = 0;
-
+public final class PromisesTest extends Answers {
     public static void main(String[] args) {
         newObject();
         counts();
@@ -39,56 +35,11 @@ public final class PromisesTest {
         copies();
         townsBySheets();
         takens();
-        System.out.println(calls + " calls, " + (wrong == 0 ? "all answers are as due" : wrong + " not as due"));
-        if (wrong != 0) {
-            System.exit(1);
-        }
+        finish();
     }
 
     private static void due(int promise, String call, long got, long want) {
-        calls++;
-        if (got != want) {
-            wrong++;
-            System.out.println("promise " + promise + ": " + call + " answered " + got + ", due is " + want);
-        }
-    }
-
-    private static void feedAll(BellOfLies x, String text) {
-        for (int i = 0; i < text.length(); i++) {
-            x.feed(1, text.charAt(i), 0, 0, 0, 0);
-        }
-    }
-
-    private static int read(BellOfLies x, String text) {
-        feedAll(x, text);
-        return x.text();
-    }
-
-    private static void rule(BellOfLies x, String text) {
-        int t = read(x, text);
-        due(5, "text of the law " + text, t > 0 ? 1 : 0, 1);
-        x.force(t);
-    }
-
-    private static BellOfLies town(int... triples) {
-        BellOfLies x = new BellOfLies();
-        for (int i = 0; i + 2 < triples.length; i += 3) {
-            due(8, "person", x.person(triples[i], triples[i + 1], triples[i + 2]), i / 3);
-        }
-        return x;
-    }
-
-    private static BellOfLies ruledTown(String text, int... triples) {
-        BellOfLies x = town(triples);
-        rule(x, text);
-        return x;
-    }
-
-    private static void row(BellOfLies x, int s, int... numbers) {
-        x.sheet(s, 2, numbers.length);
-        for (int i = 0; i < numbers.length; i++) {
-            x.cell(s, i, numbers[i]);
-        }
+        due("promise " + promise + ": " + call, got, want);
     }
 
     private static void newObject() {
