@@ -6,12 +6,13 @@ import java.util.Map;
 /** Long mixed runs of calls, each answer compared with that of a second program of another make: people are objects
  *  of classes, a text is a tree, and nothing is kept from call to call that the document doesn't tell of. */
 public final class ModelTest {
-    private static final int RUNS = 600, CALLS = 300;
+    /** Behind its 512th call an object may answer what it likes: the longest READ takes some 60 of them. */
+    private static final int RUNS = 600, CALLS = 300, MOST_CALLS = 450;
 
     public static void main(String[] args) {
         int runs = args.length > 0 ? Integer.parseInt(args[0]) : RUNS;
         long first = args.length > 1 ? Long.parseLong(args[1]) : 1;
-        int wrong = everyEdge();
+        int wrong = everyEdge() + everyShortText();
         for (int r = 0; r < runs && wrong < 5; r++) {
             wrong += oneRun(first + r) ? 0 : 1;
         }
@@ -26,8 +27,10 @@ public final class ModelTest {
         BellOfLies x = new BellOfLies();
         Model m = new Model();
         StringBuilder told = new StringBuilder();
-        for (int i = 0; i < CALLS; i++) {
+        int made = 0;
+        for (int i = 0; i < CALLS && made < MOST_CALLS; i++) {
             Call call = Call.drawn(dice, m);
+            made += call.size();
             long want = call.on(m);
             long got;
             try {
@@ -97,6 +100,41 @@ public final class ModelTest {
             }
         } while (Calls.turn(wheels, edges));
         return made;
+    }
+
+    /** Each row of up to four TOKENS behind each of these, read by both. */
+    private static int everyShortText() {
+        String[] tokens = { "1", "nerve", "12345", "x", "!", "(", ")", ";", "+", "-", "*", "<", "=", "or ", "and ", "not ", "lies ", "costs ", "strokes " };
+        String[] aheads = { "lies ", "lies ((((", "lies not -(-", "lies 1;costs " };
+        int texts = 0;
+        for (String ahead : aheads) {
+            for (int n = 0; n <= 4; n++) {
+                int rows = (int) Math.pow(tokens.length, n);
+                for (int row = 0; row < rows; row++) {
+                    StringBuilder text = new StringBuilder(ahead);
+                    for (int i = 0, left = row; i < n; i++, left /= tokens.length) {
+                        text.append(tokens[left % tokens.length]).append(row % 2 == 0 ? "" : " ");
+                    }
+                    texts++;
+                    if (!readAlike(text + ";strokes 1;") || !readAlike(text + ";costs 1;strokes 1;")) {
+                        return 1;
+                    }
+                }
+            }
+        }
+        System.out.println(2 * texts + " short texts, all answers are as due");
+        return 0;
+    }
+
+    private static boolean readAlike(String text) {
+        BellOfLies x = new BellOfLies();
+        Call call = Call.reading(text);
+        long want = call.on(new Model());
+        long got = call.on(x);
+        if (got != want) {
+            System.out.println("the text " + text + " answered " + got + ", due is " + want);
+        }
+        return got == want;
     }
 
     /** A row of numbers of its own, the same in each run of the test. */
@@ -242,10 +280,15 @@ public final class ModelTest {
             }
         }
 
+        /** How many calls it takes of the program. */
+        int size() {
+            return 1 + Answers.feedsOf(text).length;
+        }
+
         long on(Model m) {
             if (name.equals("READ")) {
-                for (int i = 0; i < text.length(); i++) {
-                    m.feed(1, text.charAt(i), 0, 0, 0, 0);
+                for (int[] feed : Answers.feedsOf(text)) {
+                    m.feed(feed);
                 }
                 return m.text();
             }
@@ -254,9 +297,7 @@ public final class ModelTest {
 
         long on(BellOfLies x) {
             if (name.equals("READ")) {
-                for (int i = 0; i < text.length(); i++) {
-                    x.feed(1, text.charAt(i), 0, 0, 0, 0);
-                }
+                Answers.feedAll(x, text);
                 return x.text();
             }
             return Calls.on(x, name, a);

@@ -105,8 +105,8 @@ public final class TermsBoundsTest extends Answers {
         sentence("Terms", "of the day: modulo 24");
         int[] hours = { 0, 1, 23, 24, 25, 47, 48, 9983, 9984, 9998, 9999 };
         int[] ofDay = { 0, 1, 23, 0, 1, 23, 0, 23, 0, 14, 15 };
-        BellOfLies x = ruledTown("lies 1;costs 0;strokes hour;", 0, 0, ALL, 50, 0, 0);
         for (int i = 0; i < hours.length; i++) {
+            BellOfLies x = ruledTown("lies 1;costs 0;strokes hour;", 0, 0, ALL, 50, 0, 0);
             x.clock(hours[i]);
             due("the text's hour at " + hours[i], x.asks(2, 1), ofDay[i]);
             for (int h = 0; h < 24; h++) {
@@ -114,7 +114,7 @@ public final class TermsBoundsTest extends Answers {
                 due("OWN of hour " + h + " at " + hours[i], x.bell(0), h == ofDay[i] ? 3 : 2);
             }
         }
-        x.put(0, 2, ALL);
+        BellOfLies x = ruledTown("lies 1;costs 0;strokes hour;", 0, 0, ALL);
         x.clock(23);
         due("run(1, 1) wraps around", x.run(1, 1), 0);
         due("run(2, 0): 23 and 0", x.run(2, 0), 23);
@@ -452,6 +452,13 @@ public final class TermsBoundsTest extends Answers {
         for (char c = 'a'; c <= 'z'; c++) {
             marked("lies ^nerve" + c + ";", "lies ^" + c + "nerve;", "lies ^" + c + ";", "^lies" + c + " 1;", "^" + c + "lies 1;");
         }
+        String[] places = { "^lies 1;", "lies 1;^costs 1;", "lies 1;costs 1;^strokes 1;", "lies 1 ^or 1;", "lies 1 ^and 1;", "lies ^not 1;", "lies ^nerve;",
+            "lies ^told;", "lies ^hour;", "lies ^last;", "lies ^people;", "lies ^more;" };
+        for (String place : places) {
+            for (int i = place.indexOf('^') + 1; Character.isLetter(place.charAt(i)); i++) {
+                marked(place.substring(0, i) + (char) ('a' + (place.charAt(i) - 'a' + 1) % 26) + place.substring(i + 1), place.substring(0, i) + "z" + place.substring(i + 1));
+            }
+        }
         marked("lies nerve^A;", "lies nerve^Z;", "lies nerve^`;", "lies nerve^{;", "lies ^Nerve;", "lies ^NERVE;", "^Lies 1;", "lies ^ner ve;");
     }
 
@@ -610,6 +617,11 @@ public final class TermsBoundsTest extends Answers {
         sentence("Terms", "also of a byte that begins none, of a WORD that is neither KEY nor NAME, a NUMBER that is too long");
         marked("^!", "^\u0000", "^\u00ff lies", "lies ^!", "lies 1 ^!", "lies 1;^!", "lies 1;costs 1;strokes 1;^!", "^x", "^lie 1;", "lies ^nobody;", "lies 1 ^xor 1;", "lies 1;^cost 1;",
             "lies ^12345;", "^12345", "lies 1 ^12345", "lies 1;costs ^12345;", "lies 1;costs 1;strokes 1;^12345", "lies 1;costs 1;strokes 1;^x");
+        String[] ahead = { "", "lies ", "lies (", "lies -", "lies not ", "lies 1+", "lies 1-", "lies 1*", "lies 1<", "lies 1=", "lies 1 or ", "lies 1 and ",
+            "lies 1", "lies nerve", "lies (1", "lies (1)", "lies 1;", "lies 1;costs ", "lies 1;costs 1;", "lies 1;costs 1;strokes ", "lies 1;costs 1;strokes 1;" };
+        for (String a : ahead) {
+            marked(a + " ^!", a + " ^x", a + " ^12345", a + " ^! 1;", a + " ^x 1;", a + " ^12345 1;", a + " ^x(1);", a + " ^x;costs 1;strokes 1;");
+        }
         sentence("Terms", "FAULT: the place of the first byte of the first TOKEN that can't stand there");
         marked("lies ^; ! x 12345", "lies ^! ; x", "^costs ! x", "lies ^12345 !", "lies 1 ^2 ! 12345");
     }

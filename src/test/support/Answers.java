@@ -1,5 +1,3 @@
-import java.util.Arrays;
-
 /** What the tests share: the answer that is due, towns told in a line, and all that can be seen of a town. */
 abstract class Answers {
     static final int ALL = 16777215;
@@ -78,16 +76,19 @@ abstract class Answers {
         return x;
     }
 
-    /** The bytes come behind the tape's, by as few calls as can be. */
+    /** The numbers of the feed() calls, as few as can be, by which the bytes come behind the tape's. */
+    static int[][] feedsOf(String text) {
+        int[][] feeds = new int[(text.length() + 4) / 5][6];
+        for (int i = 0; i < text.length(); i++) {
+            feeds[i / 5][0]++;
+            feeds[i / 5][i % 5 + 1] = text.charAt(i);
+        }
+        return feeds;
+    }
+
     static void feedAll(BellOfLies x, String text) {
-        int[] b = new int[5];
-        for (int i = 0; i < text.length(); i += 5) {
-            int n = Math.min(5, text.length() - i);
-            Arrays.fill(b, 0);
-            for (int k = 0; k < n; k++) {
-                b[k] = text.charAt(i + k);
-            }
-            x.feed(n, b[0], b[1], b[2], b[3], b[4]);
+        for (int[] feed : feedsOf(text)) {
+            Calls.on(x, "feed", feed);
         }
     }
 
