@@ -592,12 +592,10 @@ public final class BestBoundsTest extends Answers {
 
     /** What drawn() answers of one PERSON who always LIES by one stroke: both numbers are alike. */
     private static int drawnOfOne(int seed, int n) {
-        BigInteger lot = BigInteger.valueOf(seed).add(BigInteger.ONE);
         boolean vow = false;
         int all = 0;
-        for (int h = 0; h < n; h++) {
-            lot = lot.multiply(BigInteger.valueOf(48271)).mod(BigInteger.valueOf(2147483647));
-            vow ^= lot.mod(BigInteger.valueOf(8)).signum() == 0;
+        for (int turn : turnsOf(seed, n)) {
+            vow ^= turn == 0;
             all += vow ? 0 : 1;
         }
         return all;

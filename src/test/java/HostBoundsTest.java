@@ -185,49 +185,40 @@ public final class HostBoundsTest extends Answers {
         due("it stays", x.townBy(0, 2, 0, 0), 0);
     }
 
-    /** Number i of the sheet is v: the next one's OWN tells it. */
-    private static void holds(BellOfLies x, int s, int sort, int v) {
-        x.image();
-        due("OWN of " + v, x.townBy(s, sort, 0, 1), v >= 0 && v <= ALL ? 1 : 0);
-        if (v >= 0 && v <= ALL) {
-            due("it became", x.tells(x.count(0) - 1, 2), v);
-        }
-        x.back();
+    /** Number 2 of a sheet of a sort becomes v: then it is the other one, as the OWN of one who comes by it tells. */
+    private static void becomes(int sort, int v, int is) {
+        int s = 3 - sort;
+        BellOfLies x = new BellOfLies();
+        x.sheet(s, sort, 3);
+        due("cell(" + s + ", 2, " + v + ")", x.cell(s, 2, v), 1);
+        due("who came by " + is, x.townBy(s, sort, 0, 1), is >= 0 && is <= ALL ? 1 : 0);
+        due("OWN", x.tells(0, 2), is >= 0 && is <= ALL ? is : NO_PERSON);
     }
 
     private static void cellOfBytes() {
         sentence("Promise 34", "Number i of a SHEET becomes v (of bytes, shorts its lowest 8, 16 bits): 1.");
         int[] vs = { 0, 1, 127, 128, 255, 256, 257, 383, 384, -1, -128, -129, -256, -257, 65535, 65536 + 127, LEAST, MOST };
-        BellOfLies x = new BellOfLies();
-        x.sheet(3, 0, 3);
         for (int v : vs) {
-            due("cell(3, 2, " + v + ")", x.cell(3, 2, v), 1);
-            holds(x, 3, 0, (byte) v);
+            becomes(0, v, (byte) v);
         }
     }
 
     private static void cellOfShorts() {
         sentence("Promise 34", "Number i of a SHEET becomes v (of bytes, shorts its lowest 8, 16 bits): 1.");
         int[] vs = { 0, 128, 255, 256, 32767, 32768, 65535, 65536, 65537, 98303, 98304, -1, -32768, -32769, -65536, LEAST, MOST };
-        BellOfLies x = new BellOfLies();
-        x.sheet(2, 1, 3);
         for (int v : vs) {
-            due("cell(2, 2, " + v + ")", x.cell(2, 2, v), 1);
-            holds(x, 2, 1, (short) v);
+            becomes(1, v, (short) v);
         }
     }
 
     private static void cellOfInts() {
         sentence("Promise 34", "Number i of a SHEET becomes v");
         int[] vs = { 0, 255, 256, 65535, 65536, ALL, ALL + 1, -1, LEAST, MOST };
-        BellOfLies x = new BellOfLies();
-        x.sheet(1, 2, 3);
         for (int v : vs) {
-            due("cell(1, 2, " + v + ")", x.cell(1, 2, v), 1);
-            holds(x, 1, 2, v);
+            becomes(2, v, v);
         }
         for (int sort = 0; sort < 3; sort++) {
-            x = ruledTown("lies 1;costs 0;strokes hour+1;", 0, 0, ALL);
+            BellOfLies x = ruledTown("lies 1;costs 0;strokes hour+1;", 0, 0, ALL);
             x.sheet(0, sort, 24);
             for (int i = 0; i < 24; i++) {
                 due("number " + i + " is otherwise yet", x.judge(0), i);

@@ -756,18 +756,8 @@ public final class PromisesTest extends Answers {
     }
 
     /** Lots of seed 0 are 48271, 182605794, ..: modulo 8 these are 7, 2, .. */
-    private static int lots(int seed, int n, int[] turns) {
-        long lot = seed + 1;
-        for (int i = 0; i < n; i++) {
-            lot = lot * 48271 % 2147483647;
-            turns[i] = (int) (lot % 8);
-        }
-        return n;
-    }
-
     private static void crowds() {
-        int[] turns = new int[48];
-        lots(0, 2, turns);
+        int[] turns = turnsOf(0, 2);
         due(29, "the first lot of seed 0", turns[0], 7);
         due(29, "the second", turns[1], 182605794 % 8);
         BellOfLies x = crowdTown();
@@ -777,7 +767,8 @@ public final class PromisesTest extends Answers {
             boolean[] vow = { false, true, false, false };
             int strikes = 0;
             int lies = 0;
-            for (int h = 0; h < lots(seed, 48, turns); h++) {
+            turns = turnsOf(seed, 48);
+            for (int h = 0; h < 48; h++) {
                 due(29, "STRIKES of " + h, x.drawn(seed, h, 0), strikes);
                 due(29, "lies of " + h, x.drawn(seed, h, 1), lies);
                 if (turns[h] < 4) {

@@ -1,5 +1,3 @@
-import java.math.BigInteger;
-
 /** Each sentence of the document's Terms that names a bound: its last value and the first beyond it, on each side. */
 public final class TermsBoundsTest extends Answers {
     public static void main(String[] args) {
@@ -822,17 +820,6 @@ public final class TermsBoundsTest extends Answers {
     }
 
     // ---- crowds, images, sheets
-
-    private static int[] turnsOf(int seed, int n) {
-        BigInteger by = BigInteger.valueOf(2147483647);
-        BigInteger lot = BigInteger.valueOf(seed + 1);
-        int[] turns = new int[n];
-        for (int i = 0; i < n; i++) {
-            lot = lot.multiply(BigInteger.valueOf(48271)).mod(by);
-            turns[i] = lot.mod(BigInteger.valueOf(8)).intValue();
-        }
-        return turns;
-    }
 
     private static void crowdsBySeeds() {
         sentence("Terms", "CROWDS by a SEED (0 .. 99999), of n HOURS, in thought: ahead of each a LOT");

@@ -1,3 +1,5 @@
+import java.math.BigInteger;
+
 /** What the tests share: the answer that is due, towns told in a line, and all that can be seen of a town. */
 abstract class Answers {
     static final int ALL = 16777215;
@@ -118,6 +120,17 @@ abstract class Answers {
             bits |= 1 << h;
         }
         return bits;
+    }
+
+    /** Of a crowd's first n LOTS each modulo 8: whose VOW is turned. */
+    static int[] turnsOf(int seed, int n) {
+        BigInteger lot = BigInteger.valueOf(seed).add(BigInteger.ONE);
+        int[] turns = new int[n];
+        for (int i = 0; i < n; i++) {
+            lot = lot.multiply(BigInteger.valueOf(48271)).mod(BigInteger.valueOf(2147483647));
+            turns[i] = lot.mod(BigInteger.valueOf(8)).intValue();
+        }
+        return turns;
     }
 
     // ---- all that can be seen
